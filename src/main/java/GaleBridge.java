@@ -1486,7 +1486,7 @@ public final class GaleBridge {
             return count++;
         }
 
-        /** Whether the teller of a word knows, when those offices have heard of it by earlier words. */
+        /** Heard: the offices that earlier words told, as bits; who saw it that day knows for all words of the day. */
         private boolean isBlind(int i, int heard) {
             return (heard >> one[i] & 1) == 0 && sawOn[one[i]][matter[i]] > day[i];
         }
@@ -1702,13 +1702,20 @@ public final class GaleBridge {
                     part.slack = Math.min(TOP_LEVEL, part.slack + more);
                 }
             }
+            mendParts(texts.counting(MEND, month));
+            month++;
+        }
+
+        private void mendParts(int text) {
+            if (text == NONE) {
+                return;
+            }
             for (int i = 0; i < bridge.partCount; i++) {
                 Part part = bridge.parts[i];
-                if (part.stands && ruleOf(MEND, part.slack, part.flaw, part.kind) != 0) {
+                if (part.stands && texts.work(text, part.slack, part.flaw, part.kind) != 0) {
                     part.slack = 0;
                 }
             }
-            month++;
         }
 
         private int monthOfDistrust(int slack, int trains) {

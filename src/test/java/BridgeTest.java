@@ -311,6 +311,15 @@ public final class BridgeTest {
         x.fall(30);
         Due.is("a span that is down, and a train", x.pull(1, 30), 500);
         Due.is("none is up", x.pull(2, 99), 0);
+        GaleBridge y = new GaleBridge();
+        y.spans(12);
+        y.span(11, 1, 99);
+        Due.is("the last pier of all", y.pull(12, 99), 99 * 99 - 100);
+        y.part(0, 12, 1, 1, 0);
+        y.train(11);
+        Due.is("falls", y.fall(99), 1);
+        Due.is("its span", y.has(11, 2), 1);
+        Due.is("the one ahead of it", y.has(10, 2), 0);
     }
 
     private static void promise13() {
@@ -335,6 +344,8 @@ public final class BridgeTest {
         Due.is("goes", x.fall(5), 1);
         Due.is("shares of those that stand", x.load(0, 50), 4950);
         Due.is("gone", x.load(1, 50), Due.NO);
+        x.part(0, 4, 1, 1, 0);
+        Due.is("the only share", x.load(4, 50), 400);
     }
 
     private static void promise14() {
@@ -384,6 +395,12 @@ public final class BridgeTest {
         Due.is("wrong", x.first(100), Due.BAD);
         Due.is("wrong", x.first(-1), Due.BAD);
         Due.is("nothing went", x.count(3), 0);
+        GaleBridge z = new GaleBridge();
+        z.part(0, 0, 100, 3, 0);
+        z.part(0, 0, 50, 1, 0);
+        z.span(0, 0, 0);
+        z.span(0, 1, 99);
+        Due.is("3 by 100 is more than 1 by 50", z.first(99), 0);
         GaleBridge y = new GaleBridge();
         y.part(0, 0, 1, 3, 0);
         y.part(0, 0, 999, 7, 0);
@@ -473,6 +490,18 @@ public final class BridgeTest {
         Due.is("all is as before", x.count(1), 0);
         Due.is("all is as before", x.count(14), 0);
         Due.is("and falls so", x.fall(99), 3);
+        GaleBridge y = new GaleBridge();
+        y.span(0, 0, 0);
+        y.part(2, 0, 100, 1, 0);
+        y.part(3, 0, 100, 1, 0);
+        y.part(1, 0, 100, 1, 0);
+        y.be(0, 5, 10);
+        y.be(1, 4, 20);
+        y.be(2, 4, 15);
+        int[] kinds = {1, 2, 0};
+        for (int i = 0; i < 3; i++) {
+            Due.is("by kinds " + i, y.next(99, i), kinds[i]);
+        }
     }
 
     private static void promise18() {
@@ -497,5 +526,12 @@ public final class BridgeTest {
         x.span(0, 0, 99);
         x.part(0, 0, 999, 1, 0);
         Due.is("shares", x.safe(), (40 * 2 + 990) / 99);
+        GaleBridge y = new GaleBridge();
+        y.part(2, 0, 100, 1, 0);
+        y.part(2, 0, 100, 1, 0);
+        y.be(1, 5, 99);
+        Due.is("2 and 100 by 10", y.safe(), 10);
+        Due.is("it goes", y.fall(11), 1);
+        Due.is("gone, the other bears all: 100 and 100 by 10", y.safe(), 20);
     }
 }

@@ -9,6 +9,8 @@ public final class ImageTest {
         promise53();
         promise54();
         promise54Ties();
+        promise54First();
+        promise54Alike();
         promise55();
         promise56();
         promise56Images();
@@ -92,6 +94,9 @@ public final class ImageTest {
         Due.is("cut", x.read(0, 3), 8);
         x.put(0, 1, Due.NONE);
         Due.is("of one", x.read(0, 3), 9);
+        x.put(0, 0, 5);
+        Due.is("of the first one, too", x.read(0, 3), 7);
+        x.put(0, 0, Due.NONE);
         x.put(0, 2, Due.NONE);
         Due.is("no other is one", x.read(0, 3), Due.KIND);
         x.test(1, 0, 24);
@@ -254,6 +259,56 @@ public final class ImageTest {
         Due.is("safe", x.straps(8, 0), 99);
     }
 
+    private static void promise54First() {
+        Due.about("promise 54, the first one");
+        GaleBridge x = new GaleBridge();
+        x.spans(2);
+        x.span(0, 0, 0);
+        x.span(0, 1, 1);
+        x.part(1, 1, 35, 1, 0);
+        x.part(3, 0, 30, 1, 0);
+        x.be(1, 5, 50);
+        x.strap(1);
+        Due.is("what the column lets, which may not be strapped", x.straps(0, 0), 12);
+        Due.is("no more", x.straps(1, 0), 12);
+        Due.is("no set", x.straps(1, 1), 0);
+        x.span(1, 1, 0);
+        Due.is("now it is the lug", x.straps(0, 0), 15);
+        Due.is("strapped", x.straps(1, 0), 30);
+        Due.is("the first one", x.straps(1, 1), 1);
+        x.part(2, 0, 30, 1, 0);
+        x.be(2, 5, 50);
+        x.strap(2);
+        Due.is("either helps not by itself", x.straps(1, 1), 0);
+        Due.is("both do", x.straps(2, 1), 3);
+        Due.is("to", x.straps(2, 0), 60);
+        x.be(1, 5, 0);
+        x.be(2, 5, 0);
+        x.strap(2);
+        Due.is("none slack: none is strapped", x.straps(8, 1), 0);
+    }
+
+    private static void promise54Alike() {
+        Due.about("promise 54, alike");
+        GaleBridge x = new GaleBridge();
+        x.spans(2);
+        x.span(0, 0, 0);
+        x.span(0, 1, 1);
+        x.part(2, 0, 30, 1, 0);
+        x.strap(0);
+        x.be(0, 5, 50);
+        x.keep();
+        Due.is("one alone", x.straps(8, 1), 1);
+        x.part(2, 0, 30, 9, 0);
+        x.strap(1);
+        x.be(1, 5, 60);
+        Due.is("12 and 1 by 9 of it", x.straps(0, 0), 13);
+        Due.is("the second one", x.straps(1, 1), 2);
+        Due.is("to", x.straps(1, 0), 33);
+        x.back();
+        Due.is("one alone", x.straps(8, 0), 30);
+    }
+
     private static void promise55() {
         Due.about("promise 55");
         GaleBridge x = new GaleBridge();
@@ -303,6 +358,7 @@ public final class ImageTest {
         Due.is("three", check(x, 3, 2, 3, 2, 3, 3, 4), 0);
         Due.is("three, the last is wrong", check(x, 3, 2, 3, 2, 3, 3, 3), 6);
         Due.is("three, one is missing", check(x, 3, 2, 3, 2, 3, 3), 6);
+        Due.is("three, the third pair is wrong", check(x, 3, 2, 3, 2, 3, 4, 4), 5);
         int[] all = new int[60];
         for (int i = 0; i < 60; i++) {
             all[i] = i < 4 ? 2 + i % 2 : 3 + i % 2;
@@ -337,6 +393,21 @@ public final class ImageTest {
         Due.is("gone in the image", check(x, 1, 2, 2), 0);
         x.raise();
         Due.is("gone in the image", check(x, 1, 2, 2), 0);
+        x.runs(Due.NONE, 1);
+        x.gust(0, 2);
+        x.train(0);
+        x.keep();
+        Due.is("as the night begins the train is on none", check(x, 1, 0, 0), 0);
+        x.train(Due.NONE);
+        x.runs(0, 10);
+        x.gust(0, 0);
+        x.gust(1, 0);
+        x.gust(2, 15);
+        x.part(0, 1, 999, 1, 0);
+        x.part(2, 2, 60, 1, 0);
+        x.be(x.count(2) - 1, 5, 50);
+        x.keep();
+        Due.is("a tie in the image, and a train on the span behind", check(x, 3, 0, 0, 0, 0, 2, 3), 0);
     }
 
     private static void promise57() {
@@ -372,6 +443,10 @@ public final class ImageTest {
         x.piece(0, 5, 1);
         x.find(1, 1);
         x.back();
+        x.part(2, 0, 1, 1, 0);
+        x.be(1, 4, 5);
+        x.be(1, 5, 6);
+        x.back();
         x.part(1, 2, 3, 4, 5);
         int[] told = {1, 2, 3, 4, 0, 0, 5, 0, 1, 0, 0, 0};
         for (int what = 0; what < told.length; what++) {
@@ -395,17 +470,17 @@ public final class ImageTest {
         x.train(1);
         x.part(2, 1, 60 + v, 1, 1);
         x.piece(1, v, 0);
-        x.find(1, 1);
+        x.find(1, 1 - v);
         x.be(0, 4, 3 + v);
         x.be(0, 5, 4 + v);
         Due.text(x, "wind p+" + v, 0);
         Due.text(x, "speed w+" + v, 0);
         x.shake(8 + v);
         x.gust(7, 9 + v);
-        x.runs(3 + v, 10);
+        x.runs(3 + v, 10 + v);
         x.story(4, 1, 10 + v);
-        x.word(5 + v, 1, 2, 3);
-        x.saw(1, 3, 5 + v);
+        x.word(5 - v, 1 + v, 2 + v, 3 + v);
+        x.saw(1, 3, 5 - v);
         x.station(6 + v, 7, 8);
         x.time(1, 2, 30 + v, 4);
         if (v == 0) {
@@ -470,6 +545,13 @@ public final class ImageTest {
         Due.is("runs", x.count(14), 0);
         x.night(2);
         Due.is("runs", x.count(14), Due.NONE);
+        x.night(4);
+        Due.is("runs", x.count(14), 0);
+        x.night(5);
+        Due.is("runs", x.count(14), 1);
+        x.night(7);
+        Due.is("runs", x.count(14), 2);
+        x.night(22);
         Due.is("tests are as they are", x.read(0, 0), 101);
         Due.is("the tape too", x.count(12), 12);
         Due.is("numbers that wait too", x.count(11), 1);

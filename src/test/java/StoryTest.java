@@ -101,6 +101,16 @@ public final class StoryTest {
             y.story(i, 1, 0);
         }
         Due.is("no story lets any", y.best(), 1);
+        for (int i = 1; i < 8; i++) {
+            y.story(i, 0, 0);
+        }
+        Due.is("none is less than one", y.best(), 1);
+        y.story(0, 0, 0);
+        Due.is("alike: the least number", y.best(), 0);
+        y.story(0, 0, 1);
+        y.story(1, 0, 1);
+        y.story(2, 1, 2);
+        Due.is("two for break 0 on side 0, one on side 1", y.best(), 1);
     }
 
     private static void promise37() {
@@ -210,6 +220,13 @@ public final class StoryTest {
         x.saw(7, 3, 0);
         x.word(0, 7, 0, 3);
         Due.is("day 0", x.knew(0, 3, 0), 1);
+        x.saw(4, 5, 0);
+        x.word(8, 5, 6, 5);
+        x.word(7, 4, 5, 5);
+        x.word(6, 4, 7, 5);
+        for (int office = 4; office < 8; office++) {
+            Due.is("told the other way round " + office, x.knew(office, 5, 8), 1);
+        }
     }
 
     private static void promise42() {
@@ -230,6 +247,12 @@ public final class StoryTest {
         x.saw(0, 0, 4);
         Due.is("none", x.blind(0), 0);
         Due.is("another", x.blind(1), 1);
+        x.saw(0, 2, 0);
+        x.word(1, 0, 1, 2);
+        x.word(1, 0, 2, 2);
+        x.word(1, 1, 3, 2);
+        x.word(1, 2, 3, 2);
+        Due.is("who has heard knows on", x.blind(2), 0);
     }
 
     private static void promise43() {
@@ -296,7 +319,7 @@ public final class StoryTest {
         for (int i = 0; i < 16; i++) {
             Due.is("time", x.time(0, 0, 999, 99999), i);
         }
-        Due.is("full", x.time(0, 0, 1, 1), Due.FULL);
+        Due.is("full", x.time(999, 99998, 999, 99999), Due.FULL);
         Due.is("BAD comes first", x.time(0, 1, 1, 1), Due.BAD);
         Due.is("times", x.count(9), 16);
     }
@@ -308,11 +331,12 @@ public final class StoryTest {
         x.time(5, 10, 5, 11);
         x.time(1, 100, 3, 107);
         x.time(0, 0, 1, 3601);
-        int[] due = {3596400, 0, 7200 / 7, 0};
+        x.time(999, 99998, 999, 99999);
+        int[] due = {3596400, 0, 7200 / 7, 0, 0};
         for (int i = 0; i < due.length; i++) {
             Due.is("speed " + i, x.speed(i), due[i]);
         }
-        Due.is("wrong", x.speed(4), Due.BAD);
+        Due.is("wrong", x.speed(5), Due.BAD);
         Due.is("wrong", x.speed(-1), Due.BAD);
     }
 

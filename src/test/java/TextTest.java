@@ -93,6 +93,10 @@ public final class TextTest {
         fault("wind5", 4);
         fault("wind 5", -1);
         fault("5 wind", 0);
+        fault("send s", 0);
+        fault("wind pa", 5);
+        fault("wind pz", 5);
+        fault("wind az", 5);
         fault("mend 5s", 6);
         fault("mend s5", 6);
         fault("mend s 5", 7);
@@ -265,7 +269,7 @@ public final class TextTest {
 
     private static void sum(String e, int a, int b, int c, int due) {
         GaleBridge x = new GaleBridge();
-        Due.text(x, "mend " + e, 0);
+        Due.is("mend " + e, Due.text(x, "mend " + e, 0), 0);
         Due.is(e, x.rules(2, a, b, c), due);
     }
 
@@ -297,6 +301,7 @@ public final class TextTest {
         sum("0|0", 0, 0, 0, 0);
         sum("1|0&0", 0, 0, 0, 1);
         sum("(1|0)&0", 0, 0, 0, 0);
+        sum("(0|1)+(1|1)+(0&1)", 0, 0, 0, 2);
         sum("!5", 0, 0, 0, 0);
         sum("!0", 0, 0, 0, 1);
         sum("!!7", 0, 0, 0, 1);
