@@ -481,6 +481,8 @@ public final class ImageTest {
         x.story(4, 1, 10 + v);
         x.word(5 - v, 1 + v, 2 + v, 3 + v);
         x.saw(1, 3, 5 - v);
+        x.saw(0, 9, 5 - v);
+        x.saw(7, 0, 5 - v);
         x.station(6 + v, 7, 8);
         x.time(1, 2, 30 + v, 4);
         if (v == 0) {
@@ -540,6 +542,8 @@ public final class ImageTest {
         Due.is("train weight", x.span(-1, 0, 0), 40);
         Due.is("train sail", x.span(-1, 1, 0), 50);
         Due.is("saw", x.saw(1, 3, 99), 5);
+        Due.is("saw", x.saw(0, 9, 99), 5);
+        Due.is("saw", x.saw(7, 0, 99), 5);
         Due.is("strap", x.strap(0), Due.NO);
         x.night(3);
         Due.is("runs", x.count(14), 0);
