@@ -198,6 +198,8 @@ public final class EdgeRowTest {
         Script.holds("54: a set of one: bit by the order in which they were told",
             "part 3 0 100 1 0; part 3 4 100 1 0; be 0 5 50; strap 1; strap 0; straps 1 1 = 2; straps 1 0 = 20",
             "be 0 5 0; be 1 5 50; straps 1 1 = 1");
+        Script.holds("54: SLACK 0, by a hair",
+            "span 0 0 0; span 0 1 2; part 2 0 197 1 0; safe = 98; be 0 5 50; strap 0; straps 0 0 = 49; straps 1 0 = 98; straps 1 1 = 1");
         Script.holds("54: a FLAW stays: a LUG with SLACK 0",
             "part 3 0 100 1 0; be 0 4 50; be 0 5 50; strap 0; straps 0 0 = 12; straps 1 0 = 15; straps 1 1 = 1");
         Script.holds("54: what is GONE needs no strap",
