@@ -415,6 +415,8 @@ public final class EdgeBridgeTest {
         Script.holds("18: all as it is: with THE TRAIN, GONE ones, SLACK",
             "part 2 0 100 1 0; safe = 20; be 0 5 50; safe = 15; span -1 1 10; train 0; safe = 7; train 1; safe = 15",
             "fall 99 = 1; safe = 99");
+        Script.holds("18: of 40 PARTS, the last one, too",
+            "39 x part 0 0 999 1 0; safe = 99; part 0 4 890 1 0; safe = 99; be 39 4 1; safe = 99; raise; span 3 1 11; safe = 90");
         Script.holds("18: no SAIL: 99", "span 0 1 0; part 3 0 1 1 0; be 0 4 99; be 0 5 99; safe = 99; span 0 0 0; safe = 99");
     }
 

@@ -227,6 +227,8 @@ public final class EdgeNightTest {
             "part 0 4 1 1 0; law 'wind 99' 0; judged 4 = 1; judged 0 = 0; judged 3 = 0; fall 99 = 1; judged 4 = 0");
         Script.holds("31: any PART there, not the first alone",
             "span 0 0 0; part 0 0 999 1 0; part 0 0 1 1 0; judged 0 = 1; be 0 4 9; judged 0 = 1");
+        Script.holds("31: of 40 PARTS, the last one, too",
+            "span 0 0 0; 39 x part 0 0 999 1 0; judged 0 = 0; part 0 0 1 9 0; judged 0 = 1; judged 4 = 0");
         Script.holds("31: nothing goes by it", "part 0 0 1 1 0; law 'wind 99' 0; judged 0 = 1; told 0 8 = 1; count 1 = 0");
     }
 

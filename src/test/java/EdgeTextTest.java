@@ -243,6 +243,9 @@ public final class EdgeTextTest {
         Script.holds("2: a TEXT of many !", "law '" + nots + "' 0 = 0; of 0 2 = 30; rules 0 0 0 0 = 0");
         String right = "wind 1-(2-(3-(4-(5-(6-(7-(8-(9-9-9-9-9-9-9-9-9-9-9-9-9-9-9-9-9-9))))))))";
         Script.holds("2: a TEXT with all ( and many signs", "law '" + right + "' 0 = 0; of 0 2 = 26; rules 0 0 0 0 = " + (1 - 2 + 3 - 4 + 5 - 6 + 7 - 8 + 9 - 17 * 9));
+        Script.holds("2: a TEXT that came behind THE IMAGE leaves nothing behind",
+            "keep; law 'mend !s' 0 = 0; rules 2 7 0 0 = 0; back; law 'mend s' 0 = 0; rules 2 7 0 0 = 7; back",
+            "law 'mend s+!f' 0 = 0; rules 2 7 0 0 = 8; back; law 'mend s' 0 = 0; rules 2 7 0 0 = 7; of 0 2 = 1");
         Script.holds("2: the TEXT ahead of it leaves nothing behind", "law '" + most + "' 0 = 0; law 'wind 5' 0 = 1; of 1 2 = 1; rules 0 0 0 0 = 5; of 0 2 = 46");
     }
 
